@@ -22,9 +22,9 @@ public final class OneIsTwo {
     private final Ledger trialLedger = new Ledger(trial);
     private final Sides sides = new Sides(now);
     private final Minds minds = new Minds(now);
-    private final LawReader reader = new LawReader();
-    private final Actor actor = new Actor();
     private final byte[] tape = new byte[200];
+    private final LawReader reader = new LawReader(tape);
+    private final Actor actor = new Actor();
     private final long[][] rows = new long[12][3];
     private final int[][] sheetItems = new int[4][40];
     private final int[] sheetSort = new int[4];
@@ -125,7 +125,7 @@ public final class OneIsTwo {
     }
 
     public int law() {
-        reader.open(tape, fed);
+        reader.open(fed);
         fed = 0;
         for (int i = 0; i <= Law.MOST && !reader.isThrough(); i++) {
             if (!reader.readClause()) return LAW_FAULT - reader.at;
@@ -449,13 +449,13 @@ public final class OneIsTwo {
         return 1;
     }
 
-    /** A row that is held stays as it is when its SHEET becomes another; all that is asked of it is its sort and size. */
+    /** A row that is held stays when its SHEET becomes another; its sort and size are all that is asked of it. */
     private int layRow(int shelf, int sheet) {
         if (sheetSort[sheet] == MISSING) return lay(shelf, EMPTY, 0);
         return lay(shelf, ROW + sheetSort[sheet], sheetSize[sheet]);
     }
 
-    /** again() may have undone who or what was laid there: looked up at each use, for a later one may bear its number. */
+    /** Looked up at each use: again() may have undone what was laid there, and a later one may bear its number. */
     private int heldOn(int shelf) {
         int holds = shelfHolds[shelf];
         if (holds == ON_PERSON && !now.isPerson(shelfNumber[shelf])) return EMPTY;
@@ -896,13 +896,16 @@ public final class OneIsTwo {
         private static final int DEEPEST = 3;
 
         final Law read = new Law();
-        private byte[] text = new byte[0];
+        private final byte[] text;
         private int size;
         /** The latest NAME, NUMBER or other byte stands from `at` to `after`. */
         private int at, after, token, number;
 
-        void open(byte[] bytes, int many) {
-            text = bytes;
+        LawReader(byte[] ofTape) {
+            text = ofTape;
+        }
+
+        void open(int many) {
             size = many;
             after = 0;
             read.clear();
@@ -1046,7 +1049,7 @@ public final class OneIsTwo {
 
     /** Follows the SHARES of a CLAIM through the EVENTS behind it. */
     private static final class Ledger {
-        /** 11 copies at most can come, each of whom parts a SHARE by 4 once at most: in 4^-11ths all of them are whole. */
+        /** 11 copies at most can come, and each parts a SHARE by 4 once at most: in 4^-11ths all are whole. */
         static final int BITS = 22;
         static final long WHOLE = 1L << BITS;
 
