@@ -232,7 +232,8 @@ public final class OneIsTwo {
         if (!now.isAwake(p)) return STATE;
         int best = 0;
         long least = ledger.sumOf(p, DEBT) / Ledger.WHOLE;
-        for (int choice = 1; choice < 4 + now.people; choice++) {
+        // No sum is below 0, so behind one of 0 there is nothing to look for.
+        for (int choice = 1; choice < 4 + now.people && least > 0; choice++) {
             int who = tryChoice(p, choice);
             long sum = who < 0 ? least : trialLedger.sumOf(who, DEBT) / Ledger.WHOLE;
             if (sum < least) {

@@ -89,6 +89,7 @@ public final class DeedsTest {
         due("20: body", x.blame(1), 0b10);
         Check.law(x, "blame memory;");
         due("20: memory", x.blame(0), 0b111);
+        due("20: one who doesn't remember", x.blame(1), 0b10);
         Check.law(x, "blame memory; leave needed;");
         due("20: memory, not the void one", x.blame(0), 0b11);
         Check.law(x, "blame root;");

@@ -35,6 +35,10 @@ public final class HostTest {
         due("36: no place", x.put(0, 0, 3), -12);
         due("35: 40 again", x.sheet(0, 0, 40), 1);
         due("35: all 0", x.item(0, 0, 39), 0);
+        x.put(0, 0, 7);
+        due("36: first", x.item(0, 0, 0), 7);
+        x.sheet(0, 0, 40);
+        due("35: all 0", x.item(0, 0, 0), 0);
         x.put(0, 1, 5);
         due("35: a refusal changes nothing", x.sheet(0, 2, -1), -14);
         due("37: stays", x.item(0, 0, 1), 5);

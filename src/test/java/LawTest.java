@@ -66,6 +66,9 @@ public final class LawTest {
     private static void faults() {
         fault("owed all;", 0);
         fault(" all owes;", 1);
+        fault("owesz all;", 0);
+        fault("owes all0;", 8);
+        fault("owes all9;", 8);
         fault("owes", 4);
         fault("owes  ", 6);
         fault("owes all", 8);
@@ -101,6 +104,8 @@ public final class LawTest {
         fault("owes all if days < 5;", 12);
         fault("owes all if owes < 5;", 12);
         fault("owes all if day ! 5;", 16);
+        fault("owes all if day ? 5;", 16);
+        fault("owes all if day ; 5;", 16);
         fault("owes all if day <= 5;", 17);
         fault("owes all if day < 5 and;", 23);
         fault("owes all if day < 5 or", 22);
@@ -165,6 +170,16 @@ public final class LawTest {
         due("13: gap is 0", says(x, "gap = 0", 2), 1);
         due("13: amount is 0", says(x, "amount = 0", 2), 1);
         due("13: held is 0", says(x, "held = 0", 2), 1);
+        x.claim(0, 0, 60);
+        x.copied(0, 2, 1, 9, true);
+        x.share(0, 1, 0);
+        due("13: amount is 0, though a claim was asked about", x.says(3, 0), 1);
+        Check.law(x, "vote root if amount = 0; owes all if amount > 0 and gap = 0;");
+        due("16: a claim is asked about", x.share(4, 1, 0), 1);
+        due("13: amount is 0, though a claim was asked about", x.says(3, 0), 1);
+        Check.law(x, "vote root if gap = 0 and held = 0; owes all if gap > 0 or held > 0;");
+        due("16: a claim is asked about", x.share(4, 1, 0), 1);
+        due("13: held is 0, though a claim was asked about", x.says(3, 0), 1);
         due("13: kind first", says(x, "kind = 1", 0), 1);
         due("13: kind half", says(x, "kind = 3", 2), 1);
         due("13: kind asleep", says(x, "kind = 5", 3), 1);
@@ -173,7 +188,7 @@ public final class LawTest {
         x.end(3);
         due("13: kind ended", says(x, "kind = 6", 3), 1);
         x.join(0, 1);
-        due("13: kind joined", says(x, "kind = 4", 4), 1);
+        due("13: kind joined", says(x, "kind = 4", 5), 1);
         due("13: kind joined away", says(x, "kind = 6", 1), 1);
     }
 
@@ -190,6 +205,7 @@ public final class LawTest {
         due("13: fact on the right", says(x, "1 = kind", 0), 1);
         due("13: two facts", says(x, "made = kind", 0), 1);
         due("13: not", says(x, "not 1 = 2", 0), 1);
+        due("13: not", says(x, "not 1 = 1", 0), 0);
         due("13: not not", says(x, "not not 1 = 2", 0), 0);
         due("13: not goes with one alone", says(x, "not 1 = 2 and 1 = 2", 0), 0);
         due("13: not of both", says(x, "not (1 = 2 and 1 = 2)", 0), 1);

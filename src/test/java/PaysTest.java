@@ -9,6 +9,7 @@ public final class PaysTest {
     public static void main(String[] args) {
         wrongAsked();
         whatPays();
+        whatWasAheadOfIt();
         withoutRoom();
         joinedWith();
         lenders();
@@ -70,6 +71,56 @@ public final class PaysTest {
         pays(y, "27: a half is cut to 0", 0, 1, 0);
         y.copied(0, 2, 1, 0, true);
         pays(y, "27: cut ahead of all", 0, 0, 0);
+
+        // What was tried before leaves nothing behind for what is tried next.
+        OneIsTwo w = new OneIsTwo();
+        w.born();
+        w.later(5);
+        w.claim(0, 0, 40);
+        w.deed(0);
+        Check.law(w, "owes copy if kind = 5; owes shared if kind = 3; leave needed if kind = 2; sleep bears if gap > 3;");
+        pays(w, "27: ended", 0, 3, 0);
+        w.born();
+        pays(w, "27: without debts", 1, 0, 0);
+        w.copied(0, 3, 3, 5, true);
+        w.copied(0, 5, 1, 5, true);
+        w.end(2);
+        w.copied(0, 2, 1, 5, false);
+        lender(w, "28: rests and void", 0, 0, 1, 1);
+        w.wake(3);
+        pays(w, "27: he has all", 3, 3, 0);
+        pays(w, "27: he has none", 0, 0, 0);
+        due("28: nobody has more", w.lender(3, 1, 1), 1);
+    }
+
+    private static OneIsTwo owing(String law, int days) {
+        OneIsTwo x = new OneIsTwo();
+        x.born();
+        x.claim(0, 0, 40);
+        Check.law(x, law);
+        if (days > 0) x.later(days);
+        return x;
+    }
+
+    private static void whatWasAheadOfIt() {
+        OneIsTwo x = owing("owes copy if kind = 5 and day = 1;", 0);
+        x.copied(0, 5, 1, 0, true);
+        x.later(1);
+        x.wake(1);
+        pays(x, "27: one who rested and woke", 1, 3, 0);
+        x = owing("owes copy if kind = 3;", 0);
+        x.copied(0, 3, 1, 0, true);
+        x.end(1);
+        pays(x, "27: one who got it back", 0, 2, 0);
+        x = owing("owes shared if kind = 3;", 0);
+        x.copied(0, 3, 3, 0, true);
+        pays(x, "27: one who has three fourths", 1, 3, 0);
+        x = owing("owes copy if gap = 2;", 2);
+        x.copied(0, 2, 1, 0, true);
+        pays(x, "27: one of an earlier moment", 1, 3, 0);
+        x = owing("owes copy; leave needed;", 0);
+        x.copied(0, 2, 1, 0, false);
+        pays(x, "27: maker of one who is void", 0, 1, 0);
     }
 
     private static void withoutRoom() {

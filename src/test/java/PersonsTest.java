@@ -247,5 +247,16 @@ public final class PersonsTest {
         due("10: by the other one of both", x.common(0, 5), 0);
         due("10: below", x.common(-1, 0), -1);
         due("10: above", x.common(0, 6), -1);
+
+        OneIsTwo y = new OneIsTwo();
+        y.born();
+        y.born();
+        y.copied(1, 2, 1, 0, true);
+        y.copied(0, 2, 1, 0, true);
+        due("10: what stands between is of another", y.common(3, 1), -9);
+        due("9: what stands between is of another", y.kin(1), 0b0110);
+        y.join(1, 0);
+        due("9: the other one is the very first", y.kin(0), 0b11001);
+        due("10: the other one is the very first", y.common(3, 4), 0);
     }
 }
