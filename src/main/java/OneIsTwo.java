@@ -503,6 +503,8 @@ public final class OneIsTwo {
     }
 
     private static final class Person {
+        /** Above the number of every EVENT. */
+        static final int NEVER = 999;
         /** The KIND changes; the one he was told with stays. */
         int kind, told;
         int from, other, day, moment, part, into;
@@ -521,7 +523,7 @@ public final class OneIsTwo {
             moment = NOBODY;
             part = NOBODY;
             into = NOBODY;
-            until = Integer.MAX_VALUE;
+            until = NEVER;
             leave = true;
             isVoid = false;
             rests = false;

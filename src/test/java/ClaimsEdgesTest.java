@@ -1,4 +1,4 @@
-/** The sentences of promises 14 to 17, and of the Terms under them, that name a boundary case: each has its own calls. */
+/** The sentences of promises 14 to 17, and of the Terms under them, that name a boundary case. */
 public final class ClaimsEdgesTest {
     private static final Check CHECK = new Check("ClaimsEdgesTest");
     private static final int MIN = Integer.MIN_VALUE, MAX = Integer.MAX_VALUE;
@@ -40,7 +40,9 @@ public final class ClaimsEdgesTest {
 
     private static void claim() {
         CHECK.sentence(14, "BAD: SORT");
-        for (int sort : new int[] {MIN, -1, 2, MAX}) refused("claim of SORT " + sort, Made::rich, x -> x.claim(sort, 0, 1), -1);
+        for (int sort : new int[] {MIN, -1, 2, MAX}) {
+            refused("claim of SORT " + sort, Made::rich, x -> x.claim(sort, 0, 1), -1);
+        }
         for (int sort = 0; sort <= 1; sort++) due("claim of SORT " + sort, Made.rich().claim(sort, 0, 1), 3);
 
         CHECK.sentence(14, "no such PERSON, worth");
@@ -162,7 +164,8 @@ public final class ClaimsEdgesTest {
     }
 
     private static void onesAsleep() {
-        CHECK.sentence(Document.TERMS, "or one of KIND 5, if sleep says bears; or one of KIND 5 wakes who came when sleep said rests "
+        CHECK.sentence(Document.TERMS,
+                "or one of KIND 5, if sleep says bears; or one of KIND 5 wakes who came when sleep said rests "
                 + "(by the law on the EVENT of his coming)");
         for (int day = 2; day <= 4; day++) {
             OneIsTwo x = owing("owes shared; sleep bears if day > 3;");
@@ -293,7 +296,8 @@ public final class ClaimsEdgesTest {
     }
 
     private static void facts() {
-        CHECK.sentence(Document.TERMS, "for a copy (and as he wakes) how much his DAY of coming is above his MOMENT, else 0");
+        CHECK.sentence(Document.TERMS,
+                "for a copy (and as he wakes) how much his DAY of coming is above his MOMENT, else 0");
         for (int moment = 3; moment <= 5; moment++) {
             OneIsTwo x = owing("owes all if gap = 1; owes shared if gap = 0;");
             x.claim(0, 0, 1);
@@ -331,7 +335,8 @@ public final class ClaimsEdgesTest {
     }
 
     private static void lowestTerms() {
-        CHECK.sentence(Document.TERMS, "Fractions are told in lowest terms by parts: 0 what is above the line, 1 what is below it "
+        CHECK.sentence(Document.TERMS,
+                "Fractions are told in lowest terms by parts: 0 what is above the line, 1 what is below it "
                 + "(above 0; of 0 it is 1).");
         OneIsTwo x = owing("owes shared;");
         x.claim(0, 0, 4);

@@ -1,4 +1,4 @@
-/** The sentences of promises 18 to 26, and of the Terms under them, that name a boundary case: each has its own calls. */
+/** The sentences of promises 18 to 26, and of the Terms under them, that name a boundary case. */
 public final class DeedsEdgesTest {
     private static final Check CHECK = new Check("DeedsEdgesTest");
     private static final int MIN = Integer.MIN_VALUE, MAX = Integer.MAX_VALUE;
@@ -51,7 +51,9 @@ public final class DeedsEdgesTest {
         for (int p : new int[] {Made.ASLEEP, Made.ENDED_COPY, Made.JOINED_AWAY}) {
             refused("deed(" + p + ")", Made::rich, x -> x.deed(p), -4);
         }
-        for (int p : new int[] {Made.FIRST, Made.HALF, Made.JOINED, Made.COPY}) due("deed(" + p + ")", Made.rich().deed(p), 3);
+        for (int p : new int[] {Made.FIRST, Made.HALF, Made.JOINED, Made.COPY}) {
+            due("deed(" + p + ")", Made.rich().deed(p), 3);
+        }
         CHECK.sentence(Document.TERMS, "DEEDS, 10 at most, numbered as they come");
         due("the ninth", withDeeds(8).deed(0), 8);
         due("the tenth", withDeeds(9).deed(8), 9);
@@ -63,8 +65,12 @@ public final class DeedsEdgesTest {
 
     private static void remembers() {
         CHECK.sentence(19, "1 if a PERSON REMEMBERS a DEED, else 0. BAD.");
-        for (int p : new int[] {MIN, -1, 9, MAX}) refused("remembers(" + p + ", 0)", Made::rich, x -> x.remembers(p, 0), -1);
-        for (int d : new int[] {MIN, -1, 3, MAX}) refused("remembers(0, " + d + ")", Made::rich, x -> x.remembers(0, d), -1);
+        for (int p : new int[] {MIN, -1, 9, MAX}) {
+            refused("remembers(" + p + ", 0)", Made::rich, x -> x.remembers(p, 0), -1);
+        }
+        for (int d : new int[] {MIN, -1, 3, MAX}) {
+            refused("remembers(0, " + d + ")", Made::rich, x -> x.remembers(0, d), -1);
+        }
         refused("no DEED at all", () -> firsts(1), x -> x.remembers(0, 0), -1);
         OneIsTwo x = withDeeds(10);
         due("he did it", x.remembers(Made.HALF, 2), 1);
@@ -84,7 +90,8 @@ public final class DeedsEdgesTest {
     }
 
     private static void momentAndDay() {
-        CHECK.sentence(Document.TERMS, "a copy, if his MOMENT is its DAY or behind it, and the one he came FROM REMEMBERS it");
+        CHECK.sentence(Document.TERMS,
+                "a copy, if his MOMENT is its DAY or behind it, and the one he came FROM REMEMBERS it");
         for (int moment = 0; moment <= 4; moment++) {
             OneIsTwo x = firsts(2);
             x.later(2);
@@ -142,7 +149,8 @@ public final class DeedsEdgesTest {
     }
 
     private static void bodies() {
-        CHECK.sentence(Document.TERMS, "who did it, if he isn't ended; if he was joined, the one INTO whom, if he isn't ended, and so on; "
+        CHECK.sentence(Document.TERMS,
+                "who did it, if he isn't ended; if he was joined, the one INTO whom, if he isn't ended, and so on; "
                 + "else nobody.");
         OneIsTwo x = firsts(6);
         x.deed(0);
@@ -325,7 +333,9 @@ public final class DeedsEdgesTest {
     private static void votes() {
         CHECK.sentence(23, "VOTES. BAD: no such PERSON, part.");
         for (int p : new int[] {MIN, -1, 9, MAX}) refused("votes(" + p + ", 0)", Made::rich, x -> x.votes(p, 0), -1);
-        for (int part : new int[] {MIN, -1, 2, MAX}) refused("votes(0, " + part + ")", Made::rich, x -> x.votes(0, part), -1);
+        for (int part : new int[] {MIN, -1, 2, MAX}) {
+            refused("votes(0, " + part + ")", Made::rich, x -> x.votes(0, part), -1);
+        }
         due("the last of all", Made.rich().votes(8, 0), 1);
         due("the last of all", Made.rich().votes(8, 1), 1);
 
@@ -386,6 +396,16 @@ public final class DeedsEdgesTest {
         for (int p = 3; p < 12; p++) x.copied(0, 3, 1, 0, true);
         Check.law(x, "vote share;");
         due("12/12", x.rooted(0), 1);
+        OneIsTwo y = firsts(1);
+        for (int many = 1; many <= 12; many++) {
+            Check.law(y, "vote share;");
+            due(many + " by " + many, y.rooted(0), 1);
+            Check.law(y, "vote share if kind = 2;");
+            due("1 and " + (many - 1) + " by " + many, y.rooted(0), 1);
+            Check.law(y, "vote share; vote root if kind = 2;");
+            due("1 by " + many, y.rooted(0), many == 1 ? 1 : 0);
+            y.copied(0, 2, 1, 0, true);
+        }
         Check.law(x, "");
         due("12", x.rooted(0), 12);
         Check.law(x, "vote share; vote root if kind = 1;");
@@ -415,7 +435,9 @@ public final class DeedsEdgesTest {
 
     private static void fewest() {
         CHECK.sentence(26, "how many (what 0), as bits (1). BAD.");
-        for (int what : new int[] {MIN, -1, 2, MAX}) refused("fewest(" + what + ")", Made::rich, x -> x.fewest(what), -1);
+        for (int what : new int[] {MIN, -1, 2, MAX}) {
+            refused("fewest(" + what + ")", Made::rich, x -> x.fewest(what), -1);
+        }
         due("nobody", new OneIsTwo().fewest(0), 0);
         due("nobody", new OneIsTwo().fewest(1), 0);
         OneIsTwo x = firsts(11);
@@ -440,11 +462,28 @@ public final class DeedsEdgesTest {
         due("one of them asleep", y.fewest(1), 0b10);
     }
 
+    /** 0 REMEMBERS 0 to 2, 1 to 3 of these 0, 0 and 1, 0 and 2; 4 to 10 one DEED each, 11 none. */
+    private static OneIsTwo allTwelveApart() {
+        OneIsTwo x = firsts(1);
+        x.deed(0);
+        for (int day = 1; day <= 2; day++) {
+            x.later(1);
+            x.deed(0);
+        }
+        x.copied(0, 2, 1, 0, true);
+        x.copied(0, 2, 1, 1, true);
+        x.copied(0, 3, 1, 2, true);
+        for (int p = 4; p <= 10; p++) x.deed(x.born());
+        x.born();
+        return x;
+    }
+
     private static void theLeastAsBits() {
         CHECK.sentence(Document.TERMS, "are told apart so by one of these; of several the least as bits.");
         OneIsTwo x = firsts(10);
         for (int p = 0; p < 10; p++) x.deed(p);
         due("nine of ten", x.fewest(1), 0x1ff);
+        due("66 pairs, and the last of them needs the last DEED", allTwelveApart().fewest(1), 0x3ff);
         OneIsTwo y = firsts(2);
         for (int d = 0; d < 10; d++) y.deed(0);
         due("any one", y.fewest(1), 1);

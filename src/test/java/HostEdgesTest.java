@@ -1,4 +1,4 @@
-/** The sentences of promises 35 to 43, and of the Terms under them, that name a boundary case: each has its own calls. */
+/** The sentences of promises 35 to 43, and of the Terms under them, that name a boundary case. */
 public final class HostEdgesTest {
     private static final Check CHECK = new Check("HostEdgesTest");
     private static final int MIN = Integer.MIN_VALUE, MAX = Integer.MAX_VALUE;
@@ -42,7 +42,9 @@ public final class HostEdgesTest {
 
     private static void sheetRefused() {
         CHECK.sentence(35, "BAD: no such SHEET, sort, n above 40; -14.");
-        for (int s : new int[] {MIN, -1, 4, MAX}) refused("sheet(" + s + ", 0, 1)", HostEdgesTest::withSheets, x -> x.sheet(s, 0, 1), -1);
+        for (int s : new int[] {MIN, -1, 4, MAX}) {
+            refused("sheet(" + s + ", 0, 1)", HostEdgesTest::withSheets, x -> x.sheet(s, 0, 1), -1);
+        }
         for (int s = 0; s <= 3; s++) due("sheet(" + s + ", 0, 1)", withSheets().sheet(s, 0, 1), 1);
         for (int sort : new int[] {MIN, -2, 5, MAX}) {
             refused("sort " + sort, HostEdgesTest::withSheets, x -> x.sheet(0, sort, 1), -1);
@@ -51,8 +53,12 @@ public final class HostEdgesTest {
         for (int sort = 0; sort <= 4; sort++) {
             int as = sort;
             due("sort " + sort, withSheets().sheet(0, sort, 1), 1);
-            for (int n : new int[] {41, 42, MAX}) refused("n " + n, HostEdgesTest::withSheets, x -> x.sheet(0, as, n), -1);
-            for (int n : new int[] {-1, -2, MIN}) refused("n " + n, HostEdgesTest::withSheets, x -> x.sheet(0, as, n), -14);
+            for (int n : new int[] {41, 42, MAX}) {
+                refused("n " + n, HostEdgesTest::withSheets, x -> x.sheet(0, as, n), -1);
+            }
+            for (int n : new int[] {-1, -2, MIN}) {
+                refused("n " + n, HostEdgesTest::withSheets, x -> x.sheet(0, as, n), -14);
+            }
             for (int n : new int[] {0, 1, 39, 40}) due("n " + n, withSheets().sheet(0, sort, n), 1);
         }
         refused("BAD ahead of -14", HostEdgesTest::withSheets, x -> x.sheet(4, 0, -1), -1);
@@ -67,11 +73,11 @@ public final class HostEdgesTest {
             due("once more", x.sheet(0, -1, n), 1);
         }
         CHECK.sentence(Document.TERMS, "40 at most, or missing (at first)");
-        OneIsTwo x = new OneIsTwo();
         for (int s = 0; s <= 3; s++) {
-            for (int sort = 0; sort <= 4; sort++) due("at first", x.item(s, sort, 0), -11);
+            for (int sort = 0; sort <= 4; sort++) due("at first", new OneIsTwo().item(s, sort, 0), -11);
         }
         for (int sort = 0; sort <= 4; sort++) {
+            OneIsTwo x = new OneIsTwo();
             x.sheet(0, sort, 40);
             for (int i = 0; i < 40; i++) due("all 0", x.item(0, sort, i), 0);
             for (int i = 0; i < 40; i++) x.put(0, i, i + 1);
@@ -96,7 +102,9 @@ public final class HostEdgesTest {
         for (int i : new int[] {MIN, -1, 3, 4, 39, 40, MAX}) {
             refused("at " + i + " of 3", HostEdgesTest::withSheets, x -> x.put(0, i, 1), -12);
         }
-        for (int i : new int[] {-1, 0, 1}) refused("at " + i + " of none", HostEdgesTest::withSheets, x -> x.put(1, i, 1), -12);
+        for (int i : new int[] {-1, 0, 1}) {
+            refused("at " + i + " of none", HostEdgesTest::withSheets, x -> x.put(1, i, 1), -12);
+        }
         refused("at 40 of 40", HostEdgesTest::withSheets, x -> x.put(2, 40, 1), -12);
         due("at 39 of 40", withSheets().put(2, 39, 1), 1);
         for (int i = 0; i < 3; i++) due("at " + i + " of 3", withSheets().put(0, i, 1), 1);
@@ -120,7 +128,9 @@ public final class HostEdgesTest {
 
     private static void item() {
         CHECK.sentence(37, "BAD: no such SHEET, sort; -13; -11; -12.");
-        for (int s : new int[] {MIN, -1, 4, MAX}) refused("item(" + s + ", 0, 0)", HostEdgesTest::withSheets, x -> x.item(s, 0, 0), -1);
+        for (int s : new int[] {MIN, -1, 4, MAX}) {
+            refused("item(" + s + ", 0, 0)", HostEdgesTest::withSheets, x -> x.item(s, 0, 0), -1);
+        }
         for (int sort : new int[] {MIN, -1, 5, MAX}) {
             for (int s = 0; s <= 3; s++) {
                 int of = s;
@@ -167,8 +177,12 @@ public final class HostEdgesTest {
 
     private static void debtsRefused() {
         CHECK.sentence(38, "BAD: no such PERSON, SHEET, n; -13; -11");
-        for (int p : new int[] {MIN, -1, 2, MAX}) refused("of " + p, HostEdgesTest::withShorts, x -> x.debts(p, 0, 0, 1), -1);
-        for (int s : new int[] {MIN, -1, 4, MAX}) refused("from " + s, HostEdgesTest::withShorts, x -> x.debts(0, s, 0, 1), -1);
+        for (int p : new int[] {MIN, -1, 2, MAX}) {
+            refused("of " + p, HostEdgesTest::withShorts, x -> x.debts(p, 0, 0, 1), -1);
+        }
+        for (int s : new int[] {MIN, -1, 4, MAX}) {
+            refused("from " + s, HostEdgesTest::withShorts, x -> x.debts(0, s, 0, 1), -1);
+        }
         for (int n : new int[] {MIN, -1, 13, MAX}) {
             for (int s = 0; s <= 3; s++) {
                 int from = s;
@@ -240,7 +254,9 @@ public final class HostEdgesTest {
                 refused("shelf(" + s + ", " + what + ", 0)", HostEdgesTest::withSheets, x -> x.shelf(s, as, 0), -1);
             }
         }
-        for (int what : new int[] {MIN, -1, 4, MAX}) refused("what " + what, HostEdgesTest::withSheets, x -> x.shelf(0, what, 0), -1);
+        for (int what : new int[] {MIN, -1, 4, MAX}) {
+            refused("what " + what, HostEdgesTest::withSheets, x -> x.shelf(0, what, 0), -1);
+        }
         for (int n : new int[] {MIN, -1, MAX}) {
             for (int what = 0; what <= 2; what++) {
                 int as = what;
@@ -312,7 +328,8 @@ public final class HostEdgesTest {
 
     private static void takenAs() {
         CHECK.sentence(40, "taken for a thing of KIND as (0 to 7, or one under it): its number");
-        CHECK.sentence(Document.TERMS, "each of a KIND, which may change: 0 bearer; 1 first, 2 copy, 4 joined, 6 ended (under bearer); "
+        CHECK.sentence(Document.TERMS,
+                "each of a KIND, which may change: 0 bearer; 1 first, 2 copy, 4 joined, 6 ended (under bearer); "
                 + "3 half, 5 asleep (under copy).");
         int[] persons = {Made.FIRST, Made.COPY, Made.HALF, Made.JOINED, Made.ASLEEP, Made.ENDED_COPY};
         String[] fits = {"01", "02", "023", "04", "025", "06"};
@@ -336,7 +353,9 @@ public final class HostEdgesTest {
             for (int n : new int[] {0, 1, 39, 40}) {
                 y.sheet(0, sort, n);
                 y.shelf(0, 2, 0);
-                for (int as = 10; as <= 14; as++) due("sort " + sort + " as " + as, y.taken(0, as), as == 10 + sort ? n : -13);
+                for (int as = 10; as <= 14; as++) {
+                    due("sort " + sort + " as " + as, y.taken(0, as), as == 10 + sort ? n : -13);
+                }
                 for (int as = 0; as <= 7; as++) due("sort " + sort + " as " + as, y.taken(0, as), -13);
             }
         }
@@ -344,7 +363,8 @@ public final class HostEdgesTest {
 
     private static void act() {
         CHECK.sentence(41, "0, and no TRACE then: no such SHELF, act, nothing, a row.");
-        int[][] wrong = {{MIN, 0}, {-1, 0}, {4, 0}, {MAX, 0}, {0, MIN}, {0, -1}, {0, 4}, {0, MAX}, {3, 0}, {3, 3}, {2, 0}, {2, 3}};
+        int[][] wrong = {{MIN, 0}, {-1, 0}, {4, 0}, {MAX, 0}, {0, MIN}, {0, -1}, {0, 4}, {0, MAX}, {3, 0}, {3, 3},
+            {2, 0}, {2, 3}};
         for (int[] call : wrong) {
             OneIsTwo x = Made.rich();
             due("bodies ahead of it", x.many(9), 4);
@@ -378,6 +398,14 @@ public final class HostEdgesTest {
         due("x + a", bearer(0, 5).act(0, 0, MAX - 5), MAX);
         due("(x + a) * 2 - 4", bearer(0, 5).act(0, 1, 1 << 30), MIN + 6);
         due("(x + a) * 2 - 4", bearer(0, 5).act(0, 1, MIN - 5), -4);
+        OneIsTwo y = new OneIsTwo();
+        y.born();
+        y.born();
+        y.later(7);
+        y.join(0, 1);
+        y.shelf(0, 0, 2);
+        due("(x + a) * 2 ^ a", y.act(0, 1, MAX - 7), -7);
+        due("(x + a) * 2 ^ a, with bits that both have", y.act(0, 1, 0), 9);
         OneIsTwo x = new OneIsTwo();
         x.born();
         x.claim(0, 0, 1);
@@ -398,7 +426,8 @@ public final class HostEdgesTest {
     }
 
     private static void partedByNothing() {
-        CHECK.sentence(Document.TERMS, "x by (a - n), the rest away (-15 if a is n; that is all that act() answers then)");
+        CHECK.sentence(Document.TERMS,
+                "x by (a - n), the rest away (-15 if a is n; that is all that act() answers then)");
         for (int day = 1; day <= 3; day++) {
             due("a first, a - n = " + (day - 2), bearer(2, day).act(0, 2, 7), day == 1 ? -7 : day == 2 ? -15 : 7);
             OneIsTwo x = new OneIsTwo();
@@ -432,11 +461,14 @@ public final class HostEdgesTest {
 
     private static void trace() {
         CHECK.sentence(42, "THE TRACE's i-th body. NONE.");
-        for (int i : new int[] {MIN, -1, 4, 5, 29, 30, MAX}) refused("trace(" + i + ")", Made::rich, x -> x.trace(i), -3);
+        for (int i : new int[] {MIN, -1, 4, 5, 29, 30, MAX}) {
+            refused("trace(" + i + ")", Made::rich, x -> x.trace(i), -3);
+        }
         refused("no act() yet", OneIsTwo::new, x -> x.trace(0), -3);
         int[] bodies = {13, 20, 11, 10};
         for (int i = 0; i < 4; i++) due("trace(" + i + ")", Made.rich().trace(i), bodies[i]);
-        CHECK.sentence(Document.TERMS, "numbers of the bodies that ran in the latest act(), as they began (left first)");
+        CHECK.sentence(Document.TERMS,
+                "numbers of the bodies that ran in the latest act(), as they began (left first)");
         OneIsTwo x = Made.rich();
         x.shelf(0, 0, Made.ASLEEP);
         x.act(0, 3, 1);

@@ -1,4 +1,4 @@
-/** The sentences of promises 44 and 45, and of the Terms and the face, that name a boundary case: each has its own calls. */
+/** The sentences of promises 44 and 45, and of the Terms under them, that name a boundary case. */
 public final class KeptEdgesTest {
     private static final Check CHECK = new Check("KeptEdgesTest");
 
@@ -7,19 +7,11 @@ public final class KeptEdgesTest {
     }
 
     public static void main(String[] args) {
-        everyPromiseHasASentence();
         nothingKept();
         emptyAndFull();
         whatIsNotKept();
-        constants();
-        untilTheLastCall();
+        numbersAgain();
         CHECK.close();
-    }
-
-    private static void everyPromiseHasASentence() {
-        for (int promise = 1; promise <= Document.PROMISES; promise++) {
-            due("tests of promise " + promise, Document.isNamedByATest(promise) ? 1 : 0, 1);
-        }
     }
 
     private static void nothingKept() {
@@ -109,18 +101,40 @@ public final class KeptEdgesTest {
         due("CLAIMS", x.many(3), 0);
     }
 
-    private static void constants() {
-        CHECK.sentence(Document.TERMS, "public static final int BAD = -1, FULL = -2, NONE = -3, STATE = -4;");
-        due("BAD", OneIsTwo.BAD, -1);
-        due("FULL", OneIsTwo.FULL, -2);
-        due("NONE", OneIsTwo.NONE, -3);
-        due("STATE", OneIsTwo.STATE, -4);
-    }
-
-    private static void untilTheLastCall() {
-        CHECK.sentence(Document.TERMS, "An object is used for at most 512 calls after it has been made");
-        OneIsTwo x = Made.withTwoFirsts();
-        for (int call = 3; call < 512; call++) due("call " + call, call % 2 == 0 ? x.keep() : x.again(), call == 3 ? -3 : 1);
-        due("the last call", x.many(0), 2);
+    private static void numbersAgain() {
+        CHECK.sentence(45, "It becomes what was kept latest (which stays): 1.");
+        OneIsTwo x = new OneIsTwo();
+        x.born();
+        x.copied(0, 5, 1, 0, true);
+        Check.law(x, "leave needed; owes all; wed both;");
+        x.keep();
+        x.copied(0, 3, 3, 0, false);
+        x.copied(0, 5, 1, 0, false);
+        x.join(0, 2);
+        x.wake(1);
+        x.later(5);
+        x.end(3);
+        x.claim(1, 4, 9);
+        x.deed(4);
+        x.wed(4, 1);
+        x.again();
+        due("one with a number that was another's", x.born(), 2);
+        int[] first = {1, -9, -9, 0, -9, -9, -9, 0, 2};
+        for (int what = 0; what <= 8; what++) due("a first, " + what, x.person(2, what), first[what]);
+        due("he votes", x.votes(2, 0), 1);
+        due("a copy of his", x.copied(2, 2, 1, 0, true), 3);
+        int[] copy = {2, 2, -9, 0, 0, 2, -9, 0, 2};
+        for (int what = 0; what <= 8; what++) due("a copy, " + what, x.person(3, what), copy[what]);
+        due("the one who was joined", x.person(0, 6), -9);
+        due("the one who woke", x.person(1, 0), 5);
+        due("a CLAIM with a number that was another's", x.claim(0, 2, 5), 0);
+        due("its SORT", x.claimOf(0, 0), 0);
+        due("a DEED with a number that was another's", x.deed(2), 0);
+        due("he did it", x.remembers(2, 0), 1);
+        due("a WEDDING with a number that was another's", x.wed(0, 2), 0);
+        due("they are", x.wedTo(0), 0b100);
+        x.join(0, 2);
+        due("who comes", x.person(4, 7), 0);
+        due("both SHARES together", x.share(4, 0, 0), 1);
     }
 }

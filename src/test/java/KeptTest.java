@@ -41,8 +41,8 @@ public final class KeptTest {
             seen[n++] = x.remembers(p, 0);
             seen[n++] = x.wedTo(p);
             seen[n++] = x.votes(p, 1);
-            for (int key = 0; key <= 6; key++) seen[n++] = x.says(key, p);
         }
+        for (int key = 0; key <= 6; key++) seen[n++] = x.says(key, 0);
         for (int what = 0; what < 4; what++) seen[n++] = x.claimOf(0, what);
         seen[n++] = x.blame(0);
         seen[n] = x.lender(0, 1, 1);

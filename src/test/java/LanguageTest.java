@@ -11,6 +11,8 @@ import java.util.List;
 import java.util.Random;
 import java.util.Set;
 import java.util.TreeSet;
+import java.util.regex.Matcher;
+import java.util.regex.Pattern;
 
 /** The face of the class, what ../shared/LANGUAGE.md rules out as far as a look shows it, and that no call throws. */
 public final class LanguageTest {
@@ -99,6 +101,9 @@ public final class LanguageTest {
             String pattern = Character.isLetter(word.charAt(0)) ? "(?s).*\\b" + word + "\\b.*" : "(?s).*" + word + ".*";
             CHECK.isTrue("the language: " + word, !code.matches(pattern));
         }
+        Matcher used = Pattern.compile("\\b(Integer|Long|Math|Arrays|List)\\.\\w+").matcher(code);
+        Set<String> listed = Set.of("Math.max", "Math.min", "Integer.bitCount");
+        while (used.find()) CHECK.isTrue("rule 4, the library: " + used.group(), listed.contains(used.group()));
         int longest = 0;
         for (String line : source.split("\n")) longest = Math.max(longest, line.length());
         CHECK.isTrue("no line above 120 signs", longest <= 120);

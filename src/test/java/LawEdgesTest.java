@@ -1,4 +1,4 @@
-/** The sentences of promises 11 to 13, and of the Terms under them, that name a boundary case: each has its own calls. */
+/** The sentences of promises 11 to 13, and of the Terms under them, that name a boundary case. */
 public final class LawEdgesTest {
     private static final Check CHECK = new Check("LawEdgesTest");
     private static final int MIN = Integer.MIN_VALUE, MAX = Integer.MAX_VALUE;
@@ -36,7 +36,9 @@ public final class LawEdgesTest {
 
     private static void feed() {
         CHECK.sentence(11, "n bytes (1 to 8) come to THE TAPE");
-        for (int n : new int[] {MIN, -1, 0, 9, 10, MAX}) refused("feed(.., " + n + ")", Made::rich, x -> x.feed(-1, n), -1);
+        for (int n : new int[] {MIN, -1, 0, 9, 10, MAX}) {
+            refused("feed(.., " + n + ")", Made::rich, x -> x.feed(-1, n), -1);
+        }
         for (int n = 1; n <= 8; n++) due("feed(.., " + n + ")", fed(0).feed(0, n), n);
 
         CHECK.sentence(11, "FULL: more than 200.");
@@ -84,6 +86,18 @@ public final class LawEdgesTest {
         due("a FAULT", x.law(), -100);
         due("used up by a FAULT", x.many(8), 0);
         due("used up: an empty TAPE", x.law(), 0);
+
+        CHECK.sentence(Document.TERMS, "law() uses it up");
+        for (String before : new String[] {"9".repeat(200), "l".repeat(200), " ".repeat(200), ";".repeat(200)}) {
+            String[] texts = {"owes all;", "owes al", "owes all", "owes all ", "owes all if 1=1", "owes all if 1",
+                "owes", ""};
+            int[] wants = {1, -105, -108, -109, -115, -113, -104, 0};
+            for (int i = 0; i < texts.length; i++) {
+                OneIsTwo y = fed(0);
+                Check.law(y, before);
+                due("'" + texts[i] + "' where '" + before.charAt(0) + "' was", Check.law(y, texts[i]), wants[i]);
+            }
+        }
     }
 
     private static void law(String text, int want) {
@@ -142,6 +156,10 @@ public final class LawEdgesTest {
         OneIsTwo x = fed(0);
         Check.law(x, "owes all if 9998<9999 and 0<1 and 9999>0099;");
         due("they are as great as they are told", x.says(0, 0), 3);
+        Check.law(x, "owes all if 0<0;");
+        due("0 is not below 0", x.says(0, 0), 0);
+        Check.law(x, "owes all if not 0<0 and not 0000<0 and not 9999<9999 and 0=0 and not 0>0;");
+        due("0 is not below 0", x.says(0, 0), 3);
 
         CHECK.sentence(Document.TERMS, "NUMBERS rows of digits (1 to 4)");
         cond("1=0001;", 1);
@@ -241,7 +259,8 @@ public final class LawEdgesTest {
     }
 
     private static void faultsInConds() {
-        CHECK.sentence(Document.TERMS, "COND: ALL { or ALL } ALL: ONE { and ONE } ONE: { not } ( VALUE SIGN VALUE | \"(\" COND \")\" )");
+        CHECK.sentence(Document.TERMS,
+                "COND: ALL { or ALL } ALL: ONE { and ONE } ONE: { not } ( VALUE SIGN VALUE | \"(\" COND \")\" )");
         cond("1=1;", 1);
         cond("not 1=1;", 1);
         cond("not not not 1=1;", 1);
@@ -295,7 +314,8 @@ public final class LawEdgesTest {
         for (int n = 1; n < text.length(); n++) {
             int last = n;
             while (last > 0 && Character.isLetterOrDigit(text.charAt(last - 1))) last--;
-            boolean isWhole = last == n || !Character.isLetterOrDigit(text.charAt(n)) || Character.isDigit(text.charAt(n - 1));
+            boolean isWhole = last == n || !Character.isLetterOrDigit(text.charAt(n))
+                    || Character.isDigit(text.charAt(n - 1));
             // What is cut within a NAME is another NAME; what is cut elsewhere ends too early.
             law(text.substring(0, n), -100 - (isWhole ? n : last));
             if (isWhole) law(text.substring(0, n) + "   ", -103 - n);
@@ -312,7 +332,9 @@ public final class LawEdgesTest {
 
     private static void says() {
         CHECK.sentence(13, "The VALUE of a KEY (0 owes, 1 owns, 2 blame, 3 vote, 4 wed, 5 leave, 6 sleep) now");
-        for (int key : new int[] {MIN, -1, 7, MAX}) refused("says(" + key + ", 0)", Made::rich, x -> x.says(key, 0), -1);
+        for (int key : new int[] {MIN, -1, 7, MAX}) {
+            refused("says(" + key + ", 0)", Made::rich, x -> x.says(key, 0), -1);
+        }
         CHECK.sentence(13, "its place among those named in 2 (from 0). BAD.");
         for (int p : new int[] {MIN, -1, 9, MAX}) refused("says(0, " + p + ")", Made::rich, x -> x.says(0, p), -1);
         due("about the last of all", Made.rich().says(0, 8), 3);
@@ -332,7 +354,8 @@ public final class LawEdgesTest {
     }
 
     private static void whichClauseCounts() {
-        CHECK.sentence(Document.TERMS, "the VALUE of the last CLAUSE with that KEY whose COND holds (or that has none) counts");
+        CHECK.sentence(Document.TERMS,
+                "the VALUE of the last CLAUSE with that KEY whose COND holds (or that has none) counts");
         OneIsTwo x = fed(0);
         Check.law(x, "owes copy; owes all; owns copy;");
         due("the last with that KEY", x.says(0, 0), 3);
@@ -349,12 +372,14 @@ public final class LawEdgesTest {
         x.law();
         due("no CLAUSE at all", x.says(0, 0), 0);
 
-        CHECK.sentence(Document.TERMS, "For other questions: DAY; how many PERSONS there are; 0; KIND of the PERSON asked about; 0; 0.");
+        CHECK.sentence(Document.TERMS,
+                "For other questions: DAY; how many PERSONS there are; 0; KIND of the PERSON asked about; 0; 0.");
         int[] kinds = {1, 1, 5, 3, 6, 6, 6, 4, 2};
         for (int p = 0; p < kinds.length; p++) {
             OneIsTwo y = Made.rich();
             y.law();
-            Check.law(y, "vote root if day = 4 and made = 9 and gap = 0 and amount = 0 and held = 0 and kind = " + kinds[p] + ";");
+            Check.law(y, "vote root if day = 4 and made = 9 and gap = 0 and amount = 0 and held = 0 and kind = "
+                    + kinds[p] + ";");
             due("about " + p, y.says(3, p), 1);
             Check.law(y, "vote root if not day = 4 or not made = 9 or gap > 0 or amount > 0 or held > 0 or not kind = "
                     + kinds[p] + ";");

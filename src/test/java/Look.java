@@ -57,12 +57,12 @@ final class Look {
 
     private void persons() {
         for (int key = 0; key <= 6; key++) add("says " + key, x.says(key, 0));
-        for (int p = 0; p < x.many(0); p++) {
+        int people = x.many(0);
+        for (int p = 0; p < people; p++) {
             for (int what = 0; what <= 8; what++) add("person " + p + " " + what, x.person(p, what));
             add("kin " + p, x.kin(p));
             add("wedTo " + p, x.wedTo(p));
             add("votes " + p, x.votes(p, 1));
-            add("apart " + p, x.apart(0, p));
             for (int sort = 0; sort <= 1; sort++) {
                 add("total " + p + " " + sort, x.total(p, sort, 0));
                 add("total " + p + " " + sort + ", below", x.total(p, sort, 1));
@@ -71,11 +71,14 @@ final class Look {
     }
 
     private void claimsAndDeeds() {
-        for (int claim = 0; claim < x.many(3); claim++) {
+        int claims = x.many(3);
+        for (int claim = 0; claim < claims; claim++) {
             for (int what = 0; what <= 3; what++) add("claimOf " + claim + " " + what, x.claimOf(claim, what));
         }
-        for (int deed = 0; deed < x.many(4); deed++) add("blame " + deed, x.blame(deed));
-        for (int i = 0; i < x.many(7); i++) {
+        int deeds = x.many(4);
+        for (int deed = 0; deed < deeds; deed++) add("blame " + deed, x.blame(deed));
+        int rows = x.many(7);
+        for (int i = 0; i < rows; i++) {
             for (int what = 0; what <= 2; what++) add("row " + i + " " + what, x.row(i, what));
         }
     }
@@ -88,8 +91,10 @@ final class Look {
                 if (first == -13 || first == -11) continue;
                 for (int i = 1; i < 4; i++) add("item " + s + " " + sort + " " + i, x.item(s, sort, i));
             }
-            for (int as = 0; as <= 14; as++) add("taken " + s + " " + as, x.taken(s, as));
+            for (int as = 0; as <= 14; as++) {
+                if (as <= 7 || as >= 10) add("taken " + s + " " + as, x.taken(s, as));
+            }
         }
-        for (int i = 0; i < x.many(9); i++) add("trace " + i, x.trace(i));
+        for (int i = 0; i < 8; i++) add("trace " + i, x.trace(i));
     }
 }

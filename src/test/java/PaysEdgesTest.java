@@ -1,4 +1,4 @@
-/** The sentences of promises 27 to 30, and of the Terms under them, that name a boundary case: each has its own calls. */
+/** The sentences of promises 27 to 30, and of the Terms under them, that name a boundary case. */
 public final class PaysEdgesTest {
     private static final Check CHECK = new Check("PaysEdgesTest");
     private static final int MIN = Integer.MIN_VALUE, MAX = Integer.MAX_VALUE;
@@ -31,7 +31,9 @@ public final class PaysEdgesTest {
     private static void paysRefused() {
         CHECK.sentence(27, "TOTAL then, cut (1). BAD; STATE: he isn't AWAKE.");
         for (int p : new int[] {MIN, -1, 9, MAX}) refused("pays(" + p + ", 0)", Made::rich, x -> x.pays(p, 0), -1);
-        for (int what : new int[] {MIN, -1, 2, MAX}) refused("pays(0, " + what + ")", Made::rich, x -> x.pays(0, what), -1);
+        for (int what : new int[] {MIN, -1, 2, MAX}) {
+            refused("pays(0, " + what + ")", Made::rich, x -> x.pays(0, what), -1);
+        }
         for (int p : new int[] {Made.ASLEEP, Made.ENDED_COPY, Made.JOINED_AWAY}) {
             refused("pays(" + p + ", 0)", Made::rich, x -> x.pays(p, 0), -4);
             refused("BAD ahead of STATE", Made::rich, x -> x.pays(p, 2), -1);
@@ -51,7 +53,8 @@ public final class PaysEdgesTest {
     }
 
     private static void theFirstThatIsLeast() {
-        CHECK.sentence(Document.TERMS, "the first by which his TOTAL of debts (4 + q: that of who comes) is least, cut.");
+        CHECK.sentence(Document.TERMS,
+                "the first by which his TOTAL of debts (4 + q: that of who comes) is least, cut.");
         pays(owing(""), "no debts: nothing", 0, 0);
         pays(owing("", 1), "to be ended", 3, 0);
         pays(owing("owes copy;", 1), "to be copied", 1, 0);
@@ -70,6 +73,18 @@ public final class PaysEdgesTest {
         y.later(1);
         pays(y, "MOMENT this DAY, with leave", 1, 0);
         pays(owing("owes copy if kind = 3; owes all if kind = 2;", 9999, 9999), "the second of all", 2, 0);
+        CHECK.sentence(Document.TERMS, "of what a PERSON could do now");
+        OneIsTwo z = new OneIsTwo();
+        for (int p = 0; p < 3; p++) z.born();
+        for (int p = 1; p <= 2; p++) z.claim(0, p, 5);
+        z.copied(1, 2, 1, 0, true);
+        z.join(0, 2);
+        z.later(1);
+        Check.law(z, "owes copy if day = 0;");
+        for (int p = 3; p <= 4; p++) {
+            due("as he came from others than the first of all, " + p, z.pays(p, 0), 3);
+            due("he owes something, " + p, z.total(p, 0, 0), 5);
+        }
     }
 
     /** 18 EVENTS; of a debt worth so much a half is his. */
@@ -114,12 +129,16 @@ public final class PaysEdgesTest {
 
     private static void lenderRefused() {
         CHECK.sentence(28, "LENDER, copied n (0 to 4) times.");
-        for (int n : new int[] {MIN, -1, 5, MAX}) refused("copied " + n + " times", Made::rich, x -> x.lender(0, n, 0), -1);
+        for (int n : new int[] {MIN, -1, 5, MAX}) {
+            refused("copied " + n + " times", Made::rich, x -> x.lender(0, n, 0), -1);
+        }
         OneIsTwo x = owing("owes shared;");
         long[] below = {1, 2, 2, 2, 2};
         for (int n = 0; n <= 4; n++) due("copied " + n + " times", x.lender(0, n, 1), below[n]);
         CHECK.sentence(28, "BAD: no such PERSON, n, part; STATE: he isn't AWAKE; FULL: no room.");
-        for (int p : new int[] {MIN, -1, 9, MAX}) refused("lender(" + p + ", 0, 0)", Made::rich, y -> y.lender(p, 0, 0), -1);
+        for (int p : new int[] {MIN, -1, 9, MAX}) {
+            refused("lender(" + p + ", 0, 0)", Made::rich, y -> y.lender(p, 0, 0), -1);
+        }
         for (int part : new int[] {MIN, -1, 2, MAX}) refused("part " + part, Made::rich, y -> y.lender(0, 0, part), -1);
         for (int p : new int[] {Made.ASLEEP, Made.ENDED_COPY, Made.JOINED_AWAY}) {
             refused("lender(" + p + ", 0, 0)", Made::rich, y -> y.lender(p, 0, 0), -4);
@@ -191,7 +210,8 @@ public final class PaysEdgesTest {
             x.seed(77);
             return x;
         }, x -> x.call(), -3);
-        CHECK.sentence(Document.TERMS, "of the AWAKE ones by numbers the (z >>> 16) % (how many these are) -th (from 0).");
+        CHECK.sentence(Document.TERMS,
+                "of the AWAKE ones by numbers the (z >>> 16) % (how many these are) -th (from 0).");
         OneIsTwo x = new OneIsTwo();
         x.born();
         for (int i = 0; i < 20; i++) due("one alone", x.call(), 0);

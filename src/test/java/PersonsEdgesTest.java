@@ -1,4 +1,4 @@
-/** The sentences of promises 1 to 10, and of the Terms under them, that name a boundary case: each has its own calls. */
+/** The sentences of promises 1 to 10, and of the Terms under them, that name a boundary case. */
 public final class PersonsEdgesTest {
     private static final Check CHECK = new Check("PersonsEdgesTest");
     private static final int MIN = Integer.MIN_VALUE, MAX = Integer.MAX_VALUE;
@@ -78,7 +78,8 @@ public final class PersonsEdgesTest {
             due("PART of one asleep", y.person(y.copied(0, 5, part, 0, true), 5), 2);
         }
 
-        CHECK.sentence(Document.TERMS, "A copy is VOID, if it came without leave, and the law says so on its EVENT (leave).");
+        CHECK.sentence(Document.TERMS,
+                "A copy is VOID, if it came without leave, and the law says so on its EVENT (leave).");
         for (int leave = 0; leave <= 1; leave++) {
             OneIsTwo y = Made.rich();
             int p = y.copied(0, 2, 1, 0, leave == 1);
@@ -119,7 +120,9 @@ public final class PersonsEdgesTest {
 
     private static void later() {
         CHECK.sentence(2, "DAY is n (1 to 99) later: what it is. BAD");
-        for (int n : new int[] {MIN, -1, 0, 100, 101, MAX}) refused("later(" + n + ")", Made::rich, x -> x.later(n), -1);
+        for (int n : new int[] {MIN, -1, 0, 100, 101, MAX}) {
+            refused("later(" + n + ")", Made::rich, x -> x.later(n), -1);
+        }
         OneIsTwo x = new OneIsTwo();
         due("later(1)", x.later(1), 1);
         due("later(99)", x.later(99), 100);
@@ -200,7 +203,9 @@ public final class PersonsEdgesTest {
         for (int p : new int[] {Made.ASLEEP, Made.ENDED_COPY, Made.JOINED_AWAY}) {
             refused("from " + p, Made::rich, x -> x.copied(p, 2, 1, 0, true), -4);
         }
-        for (int p : new int[] {Made.FIRST, Made.HALF, Made.JOINED, Made.COPY}) due("from " + p, copiedAs(p, 2, 1, 0), 9);
+        for (int p : new int[] {Made.FIRST, Made.HALF, Made.JOINED, Made.COPY}) {
+            due("from " + p, copiedAs(p, 2, 1, 0), 9);
+        }
         OneIsTwo x = Made.rich();
         x.wake(Made.ASLEEP);
         due("from one who woke", x.copied(Made.ASLEEP, 2, 1, 0, true), 9);
@@ -262,7 +267,9 @@ public final class PersonsEdgesTest {
             refused("join(0, " + p + ")", Made::rich, x -> x.join(0, p), -4);
         }
         refused("both aren't", Made::rich, x -> x.join(Made.ASLEEP, Made.ENDED_COPY), -4);
-        for (int p : new int[] {Made.HALF, Made.JOINED, Made.COPY}) due("join(0, " + p + ")", Made.rich().join(0, p), 9);
+        for (int p : new int[] {Made.HALF, Made.JOINED, Made.COPY}) {
+            due("join(0, " + p + ")", Made.rich().join(0, p), 9);
+        }
 
         OneIsTwo eleven = Made.rich();
         eleven.born();
@@ -290,7 +297,9 @@ public final class PersonsEdgesTest {
         for (int p : new int[] {Made.ENDED_COPY, Made.JOINED_AWAY, Made.JOINED_AWAY + 1}) {
             refused("end(" + p + ")", Made::rich, y -> y.end(p), -4);
         }
-        for (int p : new int[] {Made.FIRST, Made.HALF, Made.JOINED, Made.COPY}) due("end(" + p + ")", Made.rich().end(p), 4);
+        for (int p : new int[] {Made.FIRST, Made.HALF, Made.JOINED, Made.COPY}) {
+            due("end(" + p + ")", Made.rich().end(p), 4);
+        }
         due("end of one asleep", Made.rich().end(Made.ASLEEP), 5);
 
         CHECK.sentence(7, "FULL: no room for EVENTS.");

@@ -1,4 +1,4 @@
-/** The sentences of promises 31 to 34, and of the Terms under them, that name a boundary case: each has its own calls. */
+/** The sentences of promises 31 to 34, and of the Terms under them, that name a boundary case. */
 public final class RowsEdgesTest {
     private static final Check CHECK = new Check("RowsEdgesTest");
     private static final int MIN = Integer.MIN_VALUE, MAX = Integer.MAX_VALUE;
@@ -52,7 +52,9 @@ public final class RowsEdgesTest {
 
     private static void prove() {
         CHECK.sentence(31, "ROWS of a CLAIM: how many. BAD.");
-        for (int c : new int[] {MIN, -1, 2, MAX}) refused("prove(" + c + ")", RowsEdgesTest::proved, x -> x.prove(c), -1);
+        for (int c : new int[] {MIN, -1, 2, MAX}) {
+            refused("prove(" + c + ")", RowsEdgesTest::proved, x -> x.prove(c), -1);
+        }
         refused("no CLAIM at all", OneIsTwo::new, x -> x.prove(0), -1);
         due("three", proved().prove(0), 3);
         due("one", proved().prove(1), 1);
@@ -71,8 +73,12 @@ public final class RowsEdgesTest {
 
     private static void row() {
         CHECK.sentence(32, "-9: there is none such, another what.");
-        for (int i : new int[] {MIN, -1, 3, 4, 11, 12, MAX}) refused("row(" + i + ", 0)", RowsEdgesTest::proved, x -> x.row(i, 0), -9);
-        for (int what : new int[] {MIN, -1, 3, MAX}) refused("row(0, " + what + ")", RowsEdgesTest::proved, x -> x.row(0, what), -9);
+        for (int i : new int[] {MIN, -1, 3, 4, 11, 12, MAX}) {
+            refused("row(" + i + ", 0)", RowsEdgesTest::proved, x -> x.row(i, 0), -9);
+        }
+        for (int what : new int[] {MIN, -1, 3, MAX}) {
+            refused("row(0, " + what + ")", RowsEdgesTest::proved, x -> x.row(0, what), -9);
+        }
         refused("no ROWS at all", OneIsTwo::new, x -> x.row(0, 0), -9);
         long[][] rows = {{0, 1, 8}, {1, 3, 4}, {2, 1, 8}};
         OneIsTwo x = proved();
@@ -108,7 +114,9 @@ public final class RowsEdgesTest {
         due("right", proved().judge(0), 0);
         due("no ROWS, no SHARES", lost().prove(1) * 100 + lostAndProved().judge(1), 0);
         CHECK.sentence(34, "222: they end too early. BAD.");
-        for (int c : new int[] {MIN, -1, 2, MAX}) refused("judge(" + c + ")", RowsEdgesTest::proved, x -> x.judge(c), -1);
+        for (int c : new int[] {MIN, -1, 2, MAX}) {
+            refused("judge(" + c + ")", RowsEdgesTest::proved, x -> x.judge(c), -1);
+        }
         refused("no CLAIM at all", OneIsTwo::new, x -> x.judge(0), -1);
     }
 
