@@ -1005,19 +1005,15 @@ public final class OneIsTwo {
                 token = NAME;
                 while (after < size && isLetter(text[after])) after++;
             } else if (isDigit(text[at])) {
-                readNumber();
+                number = 0;
+                for (; after < size && isDigit(text[after]); after++) {
+                    if (after - at < 4) number = number * 10 + text[after] - '0';
+                }
+                token = after - at > 4 ? LONG_NUMBER : NUMBER;
             } else {
                 token = text[at] & 255;
                 after++;
             }
-        }
-
-        private void readNumber() {
-            number = 0;
-            for (; after < size && isDigit(text[after]); after++) {
-                if (after - at < 4) number = number * 10 + text[after] - '0';
-            }
-            token = after - at > 4 ? LONG_NUMBER : NUMBER;
         }
 
         private boolean isWord(String word) {
